@@ -584,7 +584,6 @@ public final class WordIndex2 {
             this.asked = asked;
         }
 
-        @Override
         boolean meets(Terms found) {
             for (int i = 0; i < asked.size(); i++) {
                 if (asked.at(i) != 0 && !found.has(asked.at(i))) {
@@ -594,7 +593,6 @@ public final class WordIndex2 {
             return true;
         }
 
-        @Override
         boolean wants(long found) {
             return asked.has(found);
         }
@@ -608,7 +606,6 @@ public final class WordIndex2 {
         }
 
         /** A STOP word, at either end too, needs a word at its place: the whole phrase must fit. */
-        @Override
         boolean meets(Terms found) {
             for (int start = 0; start + asked.size() <= found.size(); start++) {
                 if (standsAt(found, start)) {
@@ -618,7 +615,6 @@ public final class WordIndex2 {
             return false;
         }
 
-        @Override
         boolean wants(long found) {
             return asked.has(found);
         }
@@ -644,7 +640,6 @@ public final class WordIndex2 {
             this.distance = distance;
         }
 
-        @Override
         boolean meets(Terms found) {
             for (int place = 0; place < found.size(); place++) {
                 if (found.at(place) == first && secondIsBeside(found, place)) {
@@ -654,7 +649,6 @@ public final class WordIndex2 {
             return false;
         }
 
-        @Override
         boolean wants(long found) {
             return found == first || found == second;
         }
@@ -679,12 +673,10 @@ public final class WordIndex2 {
             this.end = end;
         }
 
-        @Override
         boolean meets(Terms found) {
             return countIn(found) > 0;
         }
 
-        @Override
         boolean wants(long found) {
             return end ? Word.endsWith(found, word) : Word.beginsWith(found, word);
         }

@@ -131,6 +131,9 @@ public final class PromisesTest {
         WordIndex2 x = new WordIndex2();
         Check.add(x, 0, "cat dog");
         Check.due("5: letters", Check.collect(x, "CaT").ask(0), 1);
+        Check.add(x, 1, "AZ az Aa zZ");
+        Check.due("5: the first and the last letter", Check.collect(x, "Az ZZ").ask(1), 1);
+        Check.due("5: hits", Check.hits(x), "2:3=3/4");
         x.sign('c' + 512);
         x.sign('a' - 1024);
         x.sign('t');
