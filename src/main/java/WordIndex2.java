@@ -74,12 +74,12 @@ public final class WordIndex2 {
 
     public int ask(int kind) {
         startSearch(kind);
-        return asked.hasAny() ? gather(kind, new AllSearch(asked)) : 0;
+        return gather(kind, new AllSearch(asked));
     }
 
     public int phrase(int kind) {
         startSearch(kind);
-        return asked.hasAny() ? gather(kind, new PhraseSearch(asked)) : 0;
+        return gather(kind, new PhraseSearch(asked));
     }
 
     public int near(int kind, int distance) {
@@ -197,8 +197,9 @@ public final class WordIndex2 {
 
     private int gather(int kind, Search search) {
         for (int number = 1; number <= itemCount; number++) {
-            if (readField(number, kind) && search.meets(fieldTerms)) {
-                hits.add(number, search.countIn(fieldTerms), fieldTerms.size());
+            int count = readField(number, kind) ? search.countIn(fieldTerms) : 0;
+            if (count > 0 && search.meets(fieldTerms)) {
+                hits.add(number, count, fieldTerms.size());
             }
         }
         return hits.size();
@@ -494,15 +495,6 @@ public final class WordIndex2 {
             }
             return false;
         }
-
-        boolean hasAny() {
-            for (int place = 0; place < count; place++) {
-                if (at(place) != 0) {
-                    return true;
-                }
-            }
-            return false;
-        }
     }
 
     /** The hits of a question, by rank, copied so that later changes leave them as they were. */
@@ -561,6 +553,10 @@ public final class WordIndex2 {
 
     /** What a question wants of a field. */
     private abstract static class Search {
+        /**
+         * Asked only of a field with a TERM that is wanted: without one there is no hit, and so none
+         * for a question without words or of STOP words alone.
+         */
         abstract boolean meets(Terms found);
 
         /** Never asked for 0, which is no TERM. */
@@ -674,7 +670,7 @@ public final class WordIndex2 {
         }
 
         boolean meets(Terms found) {
-            return countIn(found) > 0;
+            return true;
         }
 
         boolean wants(long found) {

@@ -1,7 +1,7 @@
 /** For each promise of the document: ordinary calls, the edges that it names, and wrong inputs. */
 public final class PromisesTest {
-    private static final int LEAST = Integer.MIN_VALUE;
-    private static final int MOST = Integer.MAX_VALUE;
+    private static final int LEAST = Check.LEAST;
+    private static final int MOST = Check.MOST;
 
     private PromisesTest() {
     }

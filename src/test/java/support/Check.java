@@ -1,5 +1,8 @@
 /** Counts and prints the answers that are not as due, and writes texts sign by sign. */
 final class Check {
+    static final int LEAST = Integer.MIN_VALUE;
+    static final int MOST = Integer.MAX_VALUE;
+
     private static int wrong = 0;
 
     private Check() {
@@ -58,8 +61,9 @@ final class Check {
         StringBuilder text = new StringBuilder();
         for (int i = 0; x.term(kind, i, 0) != WordIndex2.NONE; i++) {
             text.append(i == 0 ? "" : " ");
-            for (int k = 0; x.term(kind, i, k) > 0; k++) {
-                text.append((char) x.term(kind, i, k));
+            for (int letter = x.term(kind, i, 0), k = 1; letter > 0; k++) {
+                text.append((char) letter);
+                letter = x.term(kind, i, k);
             }
         }
         return text.toString();
