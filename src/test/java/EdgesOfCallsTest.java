@@ -496,6 +496,10 @@ public final class EdgesOfCallsTest {
         Check.due("9: eleven letters", Check.collect(x, "bcdefghijkl").wild(0, true), 1);
         Check.due("9: twelve letters, another", Check.collect(x, "xbcdefghijkl").wild(0, true), 0);
         Check.due("9: its first word", Check.collect(x, "xxx art").wild(0, true), 0);
+        Check.write(x, 1, 1, "zyxwvutsrqpo");
+        Check.due("9: twelve late letters", Check.collect(x, "zyxwvutsrqpo").wild(1, true), 1);
+        Check.due("9: twelve late letters, another", Check.collect(x, "zyxwvutsrqpn").wild(1, true), 0);
+        Check.due("9: three late letters", Check.collect(x, "qpo").wild(1, true), 1);
     }
 
     private static void wildWordsAsTheyAre() {
@@ -627,6 +631,10 @@ public final class EdgesOfCallsTest {
         Check.due("12: the twelfth letter", x.term(0, 0, 11), 'l');
         Check.due("12: 0 past the twelfth", x.term(0, 0, 12), 0);
         Check.due("12: 0 past the twelfth", x.term(0, 0, 13), 0);
+        Check.write(x, 1, 1, "zyxwvutsrqpo");
+        Check.due("12: the twelfth letter", x.term(1, 0, 11), 'o');
+        Check.due("12: 0 past the twelfth, of late letters", x.term(1, 0, 12), 0);
+        Check.due("12: 0 past the twelfth, of late letters", x.term(1, 0, 13), 0);
         Check.due("12: NONE, a letter before 0", x.term(0, 1, -1), -1);
         Check.due("12: NONE, a letter before 0", x.term(0, 1, Check.LEAST), -1);
         x.language(0, 1);
